@@ -20,6 +20,7 @@ public final class ChangeTests {
         promise19Offer();
         promise20SetParty();
         promise21Undo();
+        promise21MadeAgain();
         promise21EveryChange();
         Exam.finish();
     }
@@ -109,7 +110,7 @@ public final class ChangeTests {
     }
 
     private static void promise15Replies() {
-        CallForks forks = talking("party 0 4 50;party 1 2 40;");
+        CallForks forks = Exam.talking("party 0 4 50;party 1 2 40;");
         forks.offer(0, 40);
         forks.pass(1);
         Exam.same("not yet", forks.pending(0, 1), 40);
@@ -139,7 +140,7 @@ public final class ChangeTests {
     }
 
     private static void promise15Patience() {
-        CallForks forks = talking("party 0 0 0;party 1 5 99;patience 5;");
+        CallForks forks = Exam.talking("party 0 0 0;party 1 5 99;patience 5;");
         forks.offer(0, 3);
         forks.pass(5);
         offered(forks, 3, 1, 1, 0);
@@ -152,7 +153,7 @@ public final class ChangeTests {
         forks.offer(1, 4);
         forks.pass(5);
         offered(forks, 3, 1, 1, 2);
-        CallForks plain = talking("party 0 0 0;party 1 0 0;");
+        CallForks plain = Exam.talking("party 0 0 0;party 1 0 0;");
         plain.offer(1, 1);
         plain.pass(19);
         Exam.same("patience of 20", plain.pending(0, 0), 1);
@@ -161,7 +162,7 @@ public final class ChangeTests {
     }
 
     private static void promise15Repetitions() {
-        CallForks forks = talking("party 0 0 99;party 1 1 99;wait 2 3;");
+        CallForks forks = Exam.talking("party 0 0 99;party 1 1 99;wait 2 3;");
         forks.offer(1, 11);
         Exam.same("glare", forks.offer(0, 22), -1);
         forks.pass(2);
@@ -171,14 +172,23 @@ public final class ChangeTests {
         forks.pass(1);
         Exam.same("lost, as step 1 comes first", forks.total(3), 1);
         offered(forks, 22, 1, 1, 0);
-        CallForks equal = talking("party 0 0 99;party 1 0 99;wait 4 4;");
+        CallForks callee = Exam.talking("party 0 0 99;party 1 0 99;wait 3 2;");
+        callee.offer(1, 11);
+        callee.offer(0, 22);
+        callee.pass(2);
+        Exam.same("the callee repeats its side", callee.pending(0, 0), 1);
+        Exam.same("the callee repeats its value", callee.pending(0, 1), 11);
+        repetitions(callee, 4, -1);
+        callee.pass(1);
+        Exam.same("the caller's one is lost", callee.total(3), 1);
+        CallForks equal = Exam.talking("party 0 0 99;party 1 0 99;wait 4 4;");
         equal.offer(0, 1);
         equal.offer(1, 2);
         equal.pass(4);
         Exam.same("side 0 first", equal.pending(0, 0), 0);
         Exam.same("side 1 is lost", equal.total(3), 1);
         repetitions(equal, -1, -1);
-        CallForks own = talking("party 0 0 99;party 1 0 99;party 0 0 0;wait 2 9;");
+        CallForks own = Exam.talking("party 0 0 99;party 1 0 99;party 0 0 0;wait 2 9;");
         own.offer(0, 1);
         own.offer(1, 2);
         own.offer(0, 3);
@@ -282,7 +292,7 @@ public final class ChangeTests {
     }
 
     private static void promise17Transfer() {
-        CallForks forks = talking("party 0 0 0;party 1 1 9;party 3 0 0;");
+        CallForks forks = Exam.talking("party 0 0 0;party 1 1 9;party 3 0 0;");
         forks.offer(0, 9);
         forks.pass(1);
         forks.offer(1, 1);
@@ -312,7 +322,7 @@ public final class ChangeTests {
     }
 
     private static void promise17TakenBack() {
-        CallForks forks = talking("party 0 0 0;party 1 0 0;party 0 0 0;party 0 0 0;ring 4;");
+        CallForks forks = Exam.talking("party 0 0 0;party 1 0 0;party 0 0 0;party 0 0 0;ring 4;");
         Exam.same("rings", forks.transfer(1, 2), 1);
         Exam.same("the caller is transferred", forks.call(1, 0), 0);
         forks.pass(3);
@@ -350,7 +360,7 @@ public final class ChangeTests {
 
     private static void promise17Refused() {
         // The transfer to 2 fails when 2 answers another call, and leg 0 talks again at once.
-        CallForks forks = talking("party 0 0 0;party 1 0 0;party 3 0 0;party 0 0 0;");
+        CallForks forks = Exam.talking("party 0 0 0;party 1 0 0;party 3 0 0;party 0 0 0;");
         forks.dial(3, 4);
         forks.pass(1);
         forks.transfer(0, 2);
@@ -361,7 +371,7 @@ public final class ChangeTests {
         Exam.same("failed", forks.total(5), 1);
         Exam.same("not transferred", forks.total(6), 0);
         // Here the held leg has ended before the third one answers.
-        CallForks ended = talking("party 0 0 0;party 1 0 0;party 2 0 0;");
+        CallForks ended = Exam.talking("party 0 0 0;party 1 0 0;party 2 0 0;");
         ended.transfer(0, 2);
         ended.hangUp(0);
         Exam.same("the call goes on", ended.pass(2), 1);
@@ -371,7 +381,7 @@ public final class ChangeTests {
     }
 
     private static void promise17Limits() {
-        CallForks forks = talking("party 0 0 0;party 1 0 0;party 0 0 0;");
+        CallForks forks = Exam.talking("party 0 0 0;party 1 0 0;party 0 0 0;");
         Exam.index("party -1", () -> forks.transfer(-1, 2));
         Exam.index("party 3", () -> forks.transfer(3, 2));
         Exam.index("target -1", () -> forks.transfer(0, -1));
@@ -465,7 +475,7 @@ public final class ChangeTests {
     }
 
     private static void promise19Offer() {
-        CallForks forks = talking("party 0 0 0;party 1 0 0;party 0 0 0;");
+        CallForks forks = Exam.talking("party 0 0 0;party 1 0 0;party 0 0 0;");
         Exam.index("party -1", () -> forks.offer(-1, 1000));
         Exam.index("party 3", () -> forks.offer(3, 1));
         Exam.argument("value -1", () -> forks.offer(0, -1));
@@ -549,8 +559,25 @@ public final class ChangeTests {
         Exam.same("the input buffer stays", forks.load(9), 0);
     }
 
+    private static void promise21MadeAgain() {
+        CallForks forks = Exam.talking("party 0 0 0;party 1 1 9;party 0 0 0;");
+        forks.offer(0, 9);
+        forks.pass(1);
+        forks.hangUp(0);
+        leg(forks, 0, 3, 6);
+        for (int k = 0; k < 5; k++) {
+            forks.undo();
+        }
+        Exam.same("no leg", forks.count(2), 0);
+        forks.dial(2, 2);
+        for (int what = 2; what <= 5; what++) {
+            Exam.same("a leg made again " + what, forks.leg(0, what), 0);
+        }
+        Exam.same("no answer yet", forks.call(0, 5), -1);
+    }
+
     private static void promise21EveryChange() {
-        CallForks forks = talking("party 0 0 0;party 1 2 9;party 2 0 0;party 0 0 0;");
+        CallForks forks = Exam.talking("party 0 0 0;party 1 2 9;party 2 0 0;party 0 0 0;");
         undone("offer", forks, () -> forks.offer(0, 8));
         forks.offer(0, 8);
         undone("refused offer", forks, () -> forks.offer(0, 8));
@@ -586,14 +613,6 @@ public final class ChangeTests {
         } catch (java.util.NoSuchElementException e) {
             return -1;
         }
-    }
-
-    /** Parties 0 and 1 talk on leg 0 since the time 1. */
-    private static CallForks talking(String statements) {
-        CallForks forks = Exam.loaded("exchange;" + statements);
-        Exam.same("dial", forks.dial(0, 2), 1);
-        Exam.same("pass", forks.pass(1), 1);
-        return forks;
     }
 
     private static void leg(CallForks forks, int leg, int state, int reason) {

@@ -79,6 +79,14 @@ final class Exam {
         return forks;
     }
 
+    /** An exchange whose parties 0 and 1, which answers after a second, talk on leg 0 since the time 1. */
+    static CallForks talking(String statements) {
+        CallForks forks = loaded("exchange;" + statements);
+        same("dial", forks.dial(0, 2), 1);
+        same("pass", forks.pass(1), 1);
+        return forks;
+    }
+
     /** Ends the program: with exit code 1 if an answer was wrong. */
     static void finish() {
         System.out.println(compared + " answers compared, " + wrong + " wrong");

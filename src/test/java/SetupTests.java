@@ -5,6 +5,7 @@ public final class SetupTests {
         promise2Append();
         promise3LoadLength();
         promise3LoadReplaces();
+        promise3LoadAgain();
         promise3Tokens();
         promise3SyntaxErrors();
         promise3OtherErrors();
@@ -103,6 +104,26 @@ public final class SetupTests {
         Exam.same("the ring rule before the load", forks.call(1, 2), 11);
     }
 
+    private static void promise3LoadAgain() {
+        CallForks forks = new CallForks();
+        for (int k = 1; k <= 9; k++) {
+            String text = "exchange;party 1 1 9;party 1 1 9;wait 2 " + k + ";patience 3" + k + ";ring 1+(2+(3+" + k + "));";
+            Exam.same("load " + k, Exam.load(forks, text), 2);
+            Exam.same("v " + k, forks.count(6), k);
+            Exam.same("patience " + k, forks.count(7), 30 + k);
+            forks.dial(0, 2);
+            Exam.same("ring time " + k, forks.call(0, 2), 6 + k);
+            for (int what = 2; what <= 5; what++) {
+                Exam.same("leg 0 " + what + " of load " + k, forks.leg(0, what), 0);
+            }
+            forks.pass(1);
+            forks.offer(0, 9);
+            forks.pass(1);
+            Exam.same("setting and version " + k, forks.leg(0, 4) * 10 + forks.leg(0, 5), 91);
+            forks.hangUp(0);
+        }
+    }
+
     private static void promise3Tokens() {
         reads("exchange;", 0);
         reads("   exchange   ;   ", 0);
@@ -161,6 +182,11 @@ public final class SetupTests {
         fails("exchange;ring wait;", -2, 14);
         fails("exchange;ring legsx;", -2, 14);
         fails("exchange;ring leg;", -2, 14);
+        fails("exchange;ring legsz;", -2, 14);
+        fails("exchange;ring aegs;", -2, 14);
+        fails("axchange;", -2, 0);
+        fails("exchange;{", -2, 9);
+        fails("exchange;ring legs`;", -2, 18);
         fails("exchange;wait 1 1;wait 100 1;", -2, 18);
         fails("exchange;patience 1; patience 1;", -2, 21);
         fails("exchange;ring 1;party 1 1 1;ring 1;", -2, 28);
@@ -231,6 +257,10 @@ public final class SetupTests {
         rings("9999*100+9999*100-9999*90-9999*10+20", 99);
         rings("(9999*100+9999-9999*100)/100", 1);
         rings("(9999*100+9999-9999*100)/10", 10);
+        rings("9999*9999-9999*100-90", 10);
+        rings("9999*9999+9999-9999*100-90", 10);
+        rings("(0-9999)*9999+9999*100+150", 50);
+        rings("0-9999*100-9999+9999*100+150", 50);
         rings("1+(2*(3+(4*(5+1-1))))", 47);
         rings("1+1*(1+1*(1+1*(1+1*(1+1*1))))", 6);
         rings("2*(3*(4*(5-(2))))", 72);

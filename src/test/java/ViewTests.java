@@ -104,7 +104,7 @@ public final class ViewTests {
     }
 
     private static void promise10Pending() {
-        CallForks forks = talking("party 0 0 0;party 1 0 0;party 0 0 0;");
+        CallForks forks = Exam.talking("party 0 0 0;party 1 0 0;party 0 0 0;");
         Exam.element("no offer", () -> forks.pending(0, 0));
         Exam.element("no offer before what", () -> forks.pending(0, 3));
         Exam.index("no leg", () -> forks.pending(1, 0));
@@ -131,7 +131,7 @@ public final class ViewTests {
     }
 
     private static void promise11Repetition() {
-        CallForks forks = talking("party 0 0 0;party 1 0 0;party 0 0 0;wait 4 6;");
+        CallForks forks = Exam.talking("party 0 0 0;party 1 0 0;party 0 0 0;wait 4 6;");
         repetitions(forks, 0, -1, -1);
         forks.offer(1, 3);
         repetitions(forks, 0, -1, -1);
@@ -160,7 +160,7 @@ public final class ViewTests {
     }
 
     private static void promise12Total() {
-        CallForks forks = talking("party 0 1 10;party 1 2 20;party 1 0 0;party 0 0 0;wait 2 2;patience 3;");
+        CallForks forks = Exam.talking("party 0 1 10;party 1 2 20;party 1 0 0;party 0 0 0;wait 2 2;patience 3;");
         totals(forks, 0, 0, 0, 0, 1, 0, 0);
         forks.offer(0, 20);
         forks.pass(2);
@@ -244,7 +244,7 @@ public final class ViewTests {
     }
 
     private static void predictionsChangeNothing() {
-        CallForks forks = talking("party 0 3 999;party 1 2 999;party 5 0 0;party 0 0 0;");
+        CallForks forks = Exam.talking("party 0 3 999;party 1 2 999;party 5 0 0;party 0 0 0;");
         forks.offer(0, 4);
         forks.dial(3, 4);
         long before = forks.checksum();
@@ -256,7 +256,7 @@ public final class ViewTests {
     }
 
     private static void promise22Checksum() {
-        CallForks forks = talking("party 0 2 3;party 1 4 5;party 0 0 0;");
+        CallForks forks = Exam.talking("party 0 2 3;party 1 4 5;party 0 0 0;");
         forks.offer(0, 7);
         forks.offer(1, 8);
         forks.dial(2, 1);
@@ -274,14 +274,6 @@ public final class ViewTests {
         CallForks empty = new CallForks();
         empty.pass(3);
         Exam.same("checksum without parties", empty.checksum(), 3L * 31 * 31 * 31 * 31 * 31 * 31 * 31);
-    }
-
-    /** Parties 0 and 1 talk on leg 0 since the time 1. */
-    private static CallForks talking(String statements) {
-        CallForks forks = Exam.loaded("exchange;" + statements);
-        Exam.same("dial", forks.dial(0, 2), 1);
-        Exam.same("pass", forks.pass(1), 1);
-        return forks;
     }
 
     private static void party(CallForks forks, int party, int... due) {
