@@ -45,29 +45,29 @@ public final class ChangeTests {
         CallForks forks = Exam.loaded("exchange;party 0 0 0;party 3 0 0;party 0 0 0;party 1 0 0;party 0 0 0;");
         forks.dial(0, 2);
         Exam.same("before the answer", forks.pass(2), 0);
-        leg(forks, 0, 0, 0);
+        Exam.leg(forks, 0, 0, 0);
         Exam.same("the answer", forks.pass(1), 1);
-        leg(forks, 0, 1, 0);
+        Exam.leg(forks, 0, 1, 0);
         forks.dial(2, 8);
         Exam.same("two talk", forks.pass(1), 2);
         forks.hangUp(1);
         forks.dial(0, 2);
         forks.dial(1, 16);
         Exam.same("an engaged callee", forks.pass(3), 1);
-        leg(forks, 2, 0, 0);
+        Exam.leg(forks, 2, 0, 0);
         forks.hangUp(1);
         Exam.same("free only after its delay", forks.pass(20), 1);
-        leg(forks, 2, 0, 0);
+        Exam.leg(forks, 2, 0, 0);
         forks.pass(7);
-        leg(forks, 2, 3, 3);
+        Exam.leg(forks, 2, 3, 3);
         forks.dial(0, 2);
         forks.pass(2);
         forks.setParty(1, 0, 2);
         forks.pass(1);
-        leg(forks, 4, 0, 0);
+        Exam.leg(forks, 4, 0, 0);
         forks.setParty(1, 0, 5);
         forks.pass(2);
-        leg(forks, 4, 1, 0);
+        Exam.leg(forks, 4, 1, 0);
     }
 
     private static void promise15AnswerAndFork() {
@@ -77,12 +77,12 @@ public final class ChangeTests {
         forks.dial(2, 8 + 64);
         forks.dial(7, 16);
         Exam.same("pass", forks.pass(2), 2);
-        leg(forks, 0, 1, 0);
-        leg(forks, 1, 3, 2);
-        leg(forks, 2, 3, 1);
-        leg(forks, 3, 3, 1);
-        leg(forks, 4, 0, 0);
-        leg(forks, 5, 1, 0);
+        Exam.leg(forks, 0, 1, 0);
+        Exam.leg(forks, 1, 3, 2);
+        Exam.leg(forks, 2, 3, 1);
+        Exam.leg(forks, 3, 3, 1);
+        Exam.leg(forks, 4, 0, 0);
+        Exam.leg(forks, 5, 1, 0);
         Exam.same("the call with one leg has failed", forks.total(5), 1);
         Exam.same("answered calls", forks.total(4), 2);
         Exam.same("the other call rings on", forks.call(2, 4), 1);
@@ -98,9 +98,9 @@ public final class ChangeTests {
         Exam.same("ringing", forks.count(4), 3);
         forks.pass(1);
         Exam.same("no ringing", forks.count(4), 0);
-        leg(forks, 0, 3, 3);
-        leg(forks, 1, 3, 3);
-        leg(forks, 2, 3, 3);
+        Exam.leg(forks, 0, 3, 3);
+        Exam.leg(forks, 1, 3, 3);
+        Exam.leg(forks, 2, 3, 3);
         Exam.same("failed", forks.total(5), 2);
         forks.dial(0, 2);
         Exam.same("an answer at the ring time counts", forks.pass(5), 1);
@@ -178,7 +178,7 @@ public final class ChangeTests {
         callee.pass(2);
         Exam.same("the callee repeats its side", callee.pending(0, 0), 1);
         Exam.same("the callee repeats its value", callee.pending(0, 1), 11);
-        repetitions(callee, 4, -1);
+        Exam.repetitions(callee, 0, 4, -1);
         callee.pass(1);
         Exam.same("the caller's one is lost", callee.total(3), 1);
         CallForks equal = Exam.talking("party 0 0 99;party 1 0 99;wait 4 4;");
@@ -187,7 +187,7 @@ public final class ChangeTests {
         equal.pass(4);
         Exam.same("side 0 first", equal.pending(0, 0), 0);
         Exam.same("side 1 is lost", equal.total(3), 1);
-        repetitions(equal, -1, -1);
+        Exam.repetitions(equal, 0, -1, -1);
         CallForks own = Exam.talking("party 0 0 99;party 1 0 99;party 0 0 0;wait 2 9;");
         own.offer(0, 1);
         own.offer(1, 2);
@@ -197,7 +197,7 @@ public final class ChangeTests {
         Exam.same("which stays", own.pending(0, 1), 3);
         own.transfer(0, 2);
         own.hangUp(1);
-        repetitions(own, -1, -1);
+        Exam.repetitions(own, 0, -1, -1);
         own.pass(9);
         Exam.same("repetitions of a held leg have gone", own.total(3), 1);
     }
@@ -209,9 +209,9 @@ public final class ChangeTests {
         freed.dial(1, 4);
         freed.dial(2, 8);
         Exam.same("both answer", freed.pass(2), 2);
-        leg(freed, 0, 1, 0);
-        leg(freed, 1, 1, 0);
-        leg(freed, 2, 3, 1);
+        Exam.leg(freed, 0, 1, 0);
+        Exam.leg(freed, 1, 1, 0);
+        Exam.leg(freed, 2, 3, 1);
         Exam.same("one has failed", freed.total(5), 1);
         // Here the turn of the leg to 2 comes first, when 2 is still engaged.
         CallForks early = Exam.loaded("exchange;party 0 0 0;party 0 0 0;party 2 0 0;party 2 0 0;");
@@ -219,15 +219,15 @@ public final class ChangeTests {
         early.dial(0, 8);
         early.dial(2, 8);
         Exam.same("one answers", early.pass(2), 1);
-        leg(early, 0, 0, 0);
-        leg(early, 1, 1, 0);
-        leg(early, 2, 3, 1);
+        Exam.leg(early, 0, 0, 0);
+        Exam.leg(early, 1, 1, 0);
+        Exam.leg(early, 2, 3, 1);
         // Two callees would answer in one second: the first leg talks, the other one is left out.
         CallForks both = Exam.loaded("exchange;party 0 0 0;party 2 0 0;party 2 0 0;");
         both.dial(0, 6);
         Exam.same("one of both", both.pass(2), 1);
-        leg(both, 0, 1, 0);
-        leg(both, 1, 3, 2);
+        Exam.leg(both, 0, 1, 0);
+        Exam.leg(both, 1, 3, 2);
         Exam.same("answered once", both.total(4), 1);
     }
 
@@ -239,11 +239,11 @@ public final class ChangeTests {
             Exam.same("state " + k, forks.leg(k, 2), 0);
         }
         Exam.same("one is engaged", forks.dial(4, 2 + 8), 1);
-        leg(forks, 3, 3, 1);
-        leg(forks, 4, 0, 0);
+        Exam.leg(forks, 3, 3, 1);
+        Exam.leg(forks, 4, 0, 0);
         Exam.same("all are engaged", forks.dial(0, 2 + 16), 0);
-        leg(forks, 5, 3, 1);
-        leg(forks, 6, 3, 1);
+        Exam.leg(forks, 5, 3, 1);
+        Exam.leg(forks, 6, 3, 1);
         Exam.same("has failed", forks.total(5), 1);
         Exam.same("a call though", forks.count(1), 3);
         Exam.same("its caller is free", forks.party(0, 3), 0);
@@ -299,17 +299,17 @@ public final class ChangeTests {
         forks.offer(0, 2);
         forks.offer(1, 3);
         Exam.same("the caller transfers", forks.transfer(0, 2), 1);
-        leg(forks, 0, 2, 0);
-        leg(forks, 1, 0, 0);
+        Exam.leg(forks, 0, 2, 0);
+        Exam.leg(forks, 1, 0, 0);
         Exam.element("no offer", () -> forks.pending(0, 0));
-        repetitions(forks, -1, -1);
+        Exam.repetitions(forks, 0, -1, -1);
         Exam.same("the other party calls", forks.call(1, 0), 1);
         Exam.same("the third is called", forks.leg(1, 1), 2);
         Exam.same("referred", forks.call(1, 3), 0);
         Exam.same("both engaged", forks.party(0, 3) + forks.party(1, 3), 2);
         forks.pass(3);
-        leg(forks, 0, 3, 7);
-        leg(forks, 1, 1, 0);
+        Exam.leg(forks, 0, 3, 7);
+        Exam.leg(forks, 1, 1, 0);
         Exam.same("transferred", forks.total(6), 1);
         Exam.same("setting and version stay", forks.leg(0, 4) * 10 + forks.leg(0, 5), 91);
         Exam.same("the first is free", forks.party(0, 3), 0);
@@ -317,7 +317,7 @@ public final class ChangeTests {
         Exam.same("the callee transfers", forks.transfer(2, 0), 1);
         Exam.same("the caller calls", forks.call(2, 0), 1);
         forks.pass(2);
-        leg(forks, 1, 3, 7);
+        Exam.leg(forks, 1, 3, 7);
         Exam.same("who talks", forks.party(0, 4), 2);
     }
 
@@ -326,34 +326,34 @@ public final class ChangeTests {
         Exam.same("rings", forks.transfer(1, 2), 1);
         Exam.same("the caller is transferred", forks.call(1, 0), 0);
         forks.pass(3);
-        leg(forks, 0, 2, 0);
+        Exam.leg(forks, 0, 2, 0);
         Exam.same("taken back", forks.pass(1), 1);
-        leg(forks, 0, 1, 0);
-        leg(forks, 1, 3, 3);
+        Exam.leg(forks, 0, 1, 0);
+        Exam.leg(forks, 1, 3, 3);
         Exam.same("failed", forks.total(5), 1);
         forks.dial(2, 8);
         forks.offer(0, 5);
         Exam.same("the third is engaged", forks.transfer(0, 2), 0);
-        leg(forks, 0, 1, 0);
-        leg(forks, 3, 3, 1);
+        Exam.leg(forks, 0, 1, 0);
+        Exam.leg(forks, 3, 3, 1);
         Exam.same("the offer has gone", forks.total(0) + forks.total(1), 0);
         Exam.element("no offer", () -> forks.pending(0, 0));
         Exam.same("failed at once", forks.total(5), 2);
         Exam.same("to a party that is only rung", forks.transfer(0, 3), 1);
         Exam.same("the third refuses", forks.hangUp(3), 4);
-        leg(forks, 0, 1, 0);
-        leg(forks, 2, 3, 5);
-        leg(forks, 4, 3, 5);
+        Exam.leg(forks, 0, 1, 0);
+        Exam.leg(forks, 2, 3, 5);
+        Exam.leg(forks, 4, 3, 5);
         Exam.same("both failed", forks.total(5), 4);
         forks.transfer(0, 3);
         Exam.same("the other gives up", forks.hangUp(1), 2);
-        leg(forks, 0, 1, 0);
+        Exam.leg(forks, 0, 1, 0);
         Exam.same("gave up has not failed", forks.total(5), 4);
         forks.transfer(0, 3);
         Exam.same("who transferred hangs up", forks.hangUp(0), 3);
-        leg(forks, 0, 3, 6);
+        Exam.leg(forks, 0, 3, 6);
         forks.hangUp(3);
-        leg(forks, 0, 3, 6);
+        Exam.leg(forks, 0, 3, 6);
         Exam.same("the referred call failed", forks.total(5), 5);
         Exam.same("nothing talks", forks.count(3), 0);
     }
@@ -365,9 +365,9 @@ public final class ChangeTests {
         forks.pass(1);
         forks.transfer(0, 2);
         Exam.same("talking", forks.pass(2), 2);
-        leg(forks, 0, 1, 0);
-        leg(forks, 1, 1, 0);
-        leg(forks, 2, 3, 1);
+        Exam.leg(forks, 0, 1, 0);
+        Exam.leg(forks, 1, 1, 0);
+        Exam.leg(forks, 2, 3, 1);
         Exam.same("failed", forks.total(5), 1);
         Exam.same("not transferred", forks.total(6), 0);
         // Here the held leg has ended before the third one answers.
@@ -375,8 +375,8 @@ public final class ChangeTests {
         ended.transfer(0, 2);
         ended.hangUp(0);
         Exam.same("the call goes on", ended.pass(2), 1);
-        leg(ended, 0, 3, 6);
-        leg(ended, 1, 1, 0);
+        Exam.leg(ended, 0, 3, 6);
+        Exam.leg(ended, 1, 1, 0);
         Exam.same("not counted as transferred", ended.total(6), 0);
     }
 
@@ -417,19 +417,19 @@ public final class ChangeTests {
         forks.dial(3, 1 + 4);
         forks.dial(0, 2);
         Exam.same("the caller gives up, though it is rung", forks.hangUp(0), 2);
-        leg(forks, 2, 3, 4);
-        leg(forks, 0, 0, 0);
+        Exam.leg(forks, 2, 3, 4);
+        Exam.leg(forks, 0, 0, 0);
         Exam.same("not failed", forks.total(5), 0);
         Exam.same("all legs of the call end", forks.hangUp(3), 2);
-        leg(forks, 0, 3, 4);
-        leg(forks, 1, 3, 4);
+        Exam.leg(forks, 0, 3, 4);
+        Exam.leg(forks, 1, 3, 4);
         forks.dial(3, 1);
         forks.dial(0, 2);
         forks.pass(1);
         forks.offer(0, 3);
         Exam.same("the talking leg, though it is rung", forks.hangUp(0), 1);
-        leg(forks, 4, 3, 6);
-        leg(forks, 3, 0, 0);
+        Exam.leg(forks, 4, 3, 6);
+        Exam.leg(forks, 3, 0, 0);
         Exam.element("its offer has gone", () -> forks.pending(4, 0));
         forks.dial(2, 2);
         forks.pass(1);
@@ -442,14 +442,14 @@ public final class ChangeTests {
         Exam.same("and talks again", forks.party(2, 4), 6);
         forks.transfer(1, 0);
         Exam.same("the callee of the held leg", forks.hangUp(1), 3);
-        leg(forks, 6, 3, 6);
-        leg(forks, 8, 0, 0);
+        Exam.leg(forks, 6, 3, 6);
+        Exam.leg(forks, 8, 0, 0);
         forks.undo();
         forks.hangUp(2);
         forks.transfer(2, 0);
         Exam.same("the caller of the held leg", forks.hangUp(2), 3);
-        leg(forks, 6, 3, 6);
-        leg(forks, 9, 0, 0);
+        Exam.leg(forks, 6, 3, 6);
+        Exam.leg(forks, 9, 0, 0);
         Exam.same("its call goes on", forks.party(1, 3), 1);
         Exam.index("party -1", () -> forks.hangUp(-1));
         Exam.index("party 4", () -> forks.hangUp(4));
@@ -461,11 +461,11 @@ public final class ChangeTests {
         forks.dial(1, 8 + 16);
         forks.dial(2, 8 + 32);
         Exam.same("refuses all", forks.hangUp(3), 4);
-        leg(forks, 0, 3, 5);
-        leg(forks, 1, 3, 5);
-        leg(forks, 2, 0, 0);
-        leg(forks, 3, 3, 5);
-        leg(forks, 4, 0, 0);
+        Exam.leg(forks, 0, 3, 5);
+        Exam.leg(forks, 1, 3, 5);
+        Exam.leg(forks, 2, 0, 0);
+        Exam.leg(forks, 3, 3, 5);
+        Exam.leg(forks, 4, 0, 0);
         Exam.same("one has failed", forks.total(5), 1);
         Exam.same("its caller is free", forks.party(0, 3), 0);
         Exam.same("the others ring on", forks.call(1, 4) + forks.call(2, 4), 2);
@@ -489,14 +489,14 @@ public final class ChangeTests {
         Exam.same("glare", forks.offer(1, 0), -1);
         Exam.element("no offer then", () -> forks.pending(0, 0));
         Exam.same("counted", forks.total(2), 1);
-        repetitions(forks, 4, 6);
+        Exam.repetitions(forks, 0, 4, 6);
         Exam.same("an offer of the callee", forks.offer(1, 5), 1);
         Exam.same("its side", forks.pending(0, 0), 1);
-        repetitions(forks, 4, 6);
+        Exam.repetitions(forks, 0, 4, 6);
         forks.pass(3);
         Exam.same("the repetition is lost", forks.total(3), 1);
         Exam.same("glare again", forks.offer(0, 7), -1);
-        repetitions(forks, 7, 9);
+        Exam.repetitions(forks, 0, 7, 9);
         forks.pass(3);
         Exam.same("the later value of the caller", forks.pending(0, 1), 7);
         forks.transfer(0, 2);
@@ -564,7 +564,7 @@ public final class ChangeTests {
         forks.offer(0, 9);
         forks.pass(1);
         forks.hangUp(0);
-        leg(forks, 0, 3, 6);
+        Exam.leg(forks, 0, 3, 6);
         for (int k = 0; k < 5; k++) {
             forks.undo();
         }
@@ -615,19 +615,9 @@ public final class ChangeTests {
         }
     }
 
-    private static void leg(CallForks forks, int leg, int state, int reason) {
-        Exam.same("state of leg " + leg + " at " + forks.time(), forks.leg(leg, 2), state);
-        Exam.same("reason of leg " + leg + " at " + forks.time(), forks.leg(leg, 3), reason);
-    }
-
-    private static void repetitions(CallForks forks, int caller, int callee) {
-        Exam.same("repetition 0 at " + forks.time(), forks.repetition(0, 0), caller);
-        Exam.same("repetition 1 at " + forks.time(), forks.repetition(0, 1), callee);
-    }
-
     /** No offer is pending on leg 0, and this has become of the earlier ones. */
     private static void offered(CallForks forks, int setting, int version, int accepted, int rolledBack) {
-        Exam.element("pending at " + forks.time(), () -> forks.pending(0, 0));
+        Exam.noOffer(forks, 0);
         Exam.same("setting at " + forks.time(), forks.leg(0, 4), setting);
         Exam.same("version at " + forks.time(), forks.leg(0, 5), version);
         Exam.same("accepted at " + forks.time(), forks.total(0), accepted);

@@ -111,9 +111,9 @@ public final class ViewTests {
         Exam.index("leg -1", () -> forks.pending(-1, 3));
         forks.pass(2);
         forks.offer(1, 999);
-        pending(forks, 0, 1, 999, 3);
+        Exam.pending(forks, 0, 1, 999, 3);
         forks.pass(2);
-        pending(forks, 0, 1, 999, 3);
+        Exam.pending(forks, 0, 1, 999, 3);
         Exam.argument("pending what 3", () -> forks.pending(0, 3));
         Exam.argument("pending what -1", () -> forks.pending(0, -1));
         forks.dial(2, 1);
@@ -124,7 +124,7 @@ public final class ViewTests {
         Exam.same("it talks again", forks.leg(0, 2), 1);
         Exam.element("its offer has gone", () -> forks.pending(0, 0));
         forks.offer(0, 0);
-        pending(forks, 0, 0, 0, 5);
+        Exam.pending(forks, 0, 0, 0, 5);
         forks.hangUp(0);
         Exam.element("an ended leg", () -> forks.pending(0, 0));
         Exam.same("what goes is counted nowhere", forks.total(0) + forks.total(1) + forks.total(3), 0);
@@ -132,26 +132,26 @@ public final class ViewTests {
 
     private static void promise11Repetition() {
         CallForks forks = Exam.talking("party 0 0 0;party 1 0 0;party 0 0 0;wait 4 6;");
-        repetitions(forks, 0, -1, -1);
+        Exam.repetitions(forks, 0, -1, -1);
         forks.offer(1, 3);
-        repetitions(forks, 0, -1, -1);
+        Exam.repetitions(forks, 0, -1, -1);
         forks.offer(0, 4);
-        repetitions(forks, 0, 5, 7);
+        Exam.repetitions(forks, 0, 5, 7);
         forks.pass(1);
         forks.offer(0, 5);
-        repetitions(forks, 0, 5, 7);
+        Exam.repetitions(forks, 0, 5, 7);
         forks.offer(1, 6);
-        repetitions(forks, 0, 6, 8);
+        Exam.repetitions(forks, 0, 6, 8);
         forks.pass(4);
-        repetitions(forks, 0, -1, 8);
-        pending(forks, 0, 0, 5, 6);
+        Exam.repetitions(forks, 0, -1, 8);
+        Exam.pending(forks, 0, 0, 5, 6);
         forks.undo();
-        repetitions(forks, 0, 6, 8);
+        Exam.repetitions(forks, 0, 6, 8);
         forks.transfer(1, 2);
-        repetitions(forks, 0, -1, -1);
+        Exam.repetitions(forks, 0, -1, -1);
         forks.undo();
         forks.hangUp(0);
-        repetitions(forks, 0, -1, -1);
+        Exam.repetitions(forks, 0, -1, -1);
         Exam.argument("side -1", () -> forks.repetition(0, -1));
         Exam.argument("side 2", () -> forks.repetition(0, 2));
         Exam.index("leg 1", () -> forks.repetition(1, 0));
@@ -161,35 +161,35 @@ public final class ViewTests {
 
     private static void promise12Total() {
         CallForks forks = Exam.talking("party 0 1 10;party 1 2 20;party 1 0 0;party 0 0 0;wait 2 2;patience 3;");
-        totals(forks, 0, 0, 0, 0, 1, 0, 0);
+        Exam.totals(forks, 0, 0, 0, 0, 1, 0, 0);
         forks.offer(0, 20);
         forks.pass(2);
-        totals(forks, 1, 0, 0, 0, 1, 0, 0);
+        Exam.totals(forks, 1, 0, 0, 0, 1, 0, 0);
         forks.offer(0, 21);
         forks.pass(2);
-        totals(forks, 1, 1, 0, 0, 1, 0, 0);
+        Exam.totals(forks, 1, 1, 0, 0, 1, 0, 0);
         forks.offer(0, 5);
         forks.offer(1, 6);
-        totals(forks, 1, 1, 1, 0, 1, 0, 0);
+        Exam.totals(forks, 1, 1, 1, 0, 1, 0, 0);
         forks.pass(2);
-        totals(forks, 1, 1, 1, 1, 1, 0, 0);
+        Exam.totals(forks, 1, 1, 1, 1, 1, 0, 0);
         forks.undo();
-        totals(forks, 1, 1, 1, 0, 1, 0, 0);
+        Exam.totals(forks, 1, 1, 1, 0, 1, 0, 0);
         forks.dial(3, 1);
-        totals(forks, 1, 1, 1, 0, 1, 1, 0);
+        Exam.totals(forks, 1, 1, 1, 0, 1, 1, 0);
         forks.transfer(0, 2);
         forks.pass(1);
-        totals(forks, 1, 1, 1, 0, 2, 1, 1);
+        Exam.totals(forks, 1, 1, 1, 0, 2, 1, 1);
         forks.dial(3, 1);
         forks.hangUp(3);
-        totals(forks, 1, 1, 1, 0, 2, 1, 1);
+        Exam.totals(forks, 1, 1, 1, 0, 2, 1, 1);
         forks.dial(3, 1);
         forks.hangUp(0);
-        totals(forks, 1, 1, 1, 0, 2, 2, 1);
+        Exam.totals(forks, 1, 1, 1, 0, 2, 2, 1);
         Exam.argument("total -1", () -> forks.total(-1));
         Exam.argument("total 7", () -> forks.total(7));
         Exam.load(forks, "exchange;");
-        totals(forks, 0, 0, 0, 0, 0, 0, 0);
+        Exam.totals(forks, 0, 0, 0, 0, 0, 0, 0);
     }
 
     private static void promise13SettlesIn() {
@@ -251,7 +251,7 @@ public final class ViewTests {
         Exam.same("settlesIn", forks.settlesIn(1), 5);
         Exam.same("answeredBy", forks.answeredBy(1), 1);
         Exam.same("checksum after predictions", forks.checksum(), before);
-        pending(forks, 0, 0, 4, 1);
+        Exam.pending(forks, 0, 0, 4, 1);
         Exam.same("predictions are no changes", forks.undo(), 4);
     }
 
@@ -291,23 +291,6 @@ public final class ViewTests {
     private static void leg(CallForks forks, int leg, int... due) {
         for (int what = 0; what < due.length; what++) {
             Exam.same("leg " + leg + " " + what + " at " + forks.time(), forks.leg(leg, what), due[what]);
-        }
-    }
-
-    private static void pending(CallForks forks, int leg, int... due) {
-        for (int what = 0; what < due.length; what++) {
-            Exam.same("pending " + leg + " " + what + " at " + forks.time(), forks.pending(leg, what), due[what]);
-        }
-    }
-
-    private static void repetitions(CallForks forks, int leg, int caller, int callee) {
-        Exam.same("repetition " + leg + " 0 at " + forks.time(), forks.repetition(leg, 0), caller);
-        Exam.same("repetition " + leg + " 1 at " + forks.time(), forks.repetition(leg, 1), callee);
-    }
-
-    private static void totals(CallForks forks, int... due) {
-        for (int what = 0; what < due.length; what++) {
-            Exam.same("total " + what + " at " + forks.time(), forks.total(what), due[what]);
         }
     }
 }
